@@ -9,7 +9,6 @@ final class Bench {
     static final int PC = 0100;
     static final int E = 0200;
     static final int OUTSIDE = 02000;
-    static final long TRAP_CODE = 07777;
 
     /** Words with all that matters at the edges: signs, halves, single bits, small numbers. */
     static final long[] EDGES = {

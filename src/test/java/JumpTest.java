@@ -15,9 +15,10 @@ public final class JumpTest {
     }
 
     private static void exchange() {
-        Bench b = new Bench().put(5, 0123).put(Bench.E, 0456).go(Bench.code(EXCHANGE, 5, Bench.E));
-        Check.same("AC", b.at(5), 0456);
+        Bench b = row().put(5, 0123).put(Bench.E, Bench.word(0301, 0456)).go(Bench.code(EXCHANGE, 5, Bench.E));
+        Check.same("AC", b.at(5), Bench.word(0301, 0456));
         Check.same("(E)", b.at(Bench.E), 0123);
+        Check.same("nothing else", b.at(0456), 0);
         b = new Bench().put(0, 0123).put(7, 0456).go(Bench.code(EXCHANGE, 0, 7));
         Check.same("accumulator 0", b.at(0), 0456);
         Check.same("accumulator 7", b.at(7), 0123);

@@ -1,6 +1,7 @@
 /** Promise 7: how many steps are made, what a step is, and how it traps. */
 public final class RunTest {
     private static final int SKIP_NEVER = 0300;
+    private static final int XCT = 0256;
 
     public static void main(String[] args) {
         refusals();
@@ -92,8 +93,6 @@ public final class RunTest {
             Check.same("trap of JRST with AC " + ac, new Bench().go(Bench.code(0254, ac, 0300)).trap(), due);
         }
     }
-
-    private static final int XCT = 0256;
 
     private static void theAddressComesBeforeTheOperation() {
         Check.same("not listed, I outside", new Bench().go(Bench.code(0777, 0, 1, 0, 02000)).trap(), 1);

@@ -44,7 +44,6 @@ public final class SegmentTest {
         Check.same("high word after refusals", loaded(b, 0400007), 6);
     }
 
-    /** Both segments set; the program lies at the low address 040. */
     private static Bench user(int lowBase, int lowBound, int highBase, int highBound) {
         Bench b = new Bench();
         b.machine.segment(0, lowBase, lowBound);

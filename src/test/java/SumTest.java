@@ -103,6 +103,13 @@ public final class SumTest {
     }
 
     private static void restGoesBehindTheLast() {
+        for (int ac = 0; ac < 16; ac++) {
+            Bench b = new Bench().put(ac, 23).go(Bench.code(0231, ac, 5));
+            for (int other = 0; other < 16; other++) {
+                long due = other == ac ? 4 : other == (ac + 1) % 16 ? 3 : 0;
+                Check.same("accumulator " + other + " of IDIV with AC " + ac, b.at(other), due);
+            }
+        }
         Bench b = new Bench().put(017, 0777777777771L).put(0, OLD).go(Bench.code(0231, 017, 3));
         Check.same("-7 / 3", b.machine.number(017), -2);
         Check.same("its rest", b.machine.number(0), -1);
