@@ -42,6 +42,13 @@ final class Bench {
         return (word & LEAST) != 0 ? word - WORD - 1 : word;
     }
 
+    static Bench withSegments(int lowBase, int lowBound, int highBase, int highBound) {
+        Bench b = new Bench();
+        b.machine.segment(0, lowBase, lowBound);
+        b.machine.segment(1, highBase, highBound);
+        return b;
+    }
+
     Bench put(int place, long word) {
         machine.deposit(place, word);
         return this;
@@ -60,6 +67,13 @@ final class Bench {
     Bench on(int steps) {
         machine.run(steps);
         return this;
+    }
+
+    /** What a step in USER loads from an address; -1 if it traps. The step lies in accumulator 4. */
+    long loadedInUser(int address) {
+        int traps = machine.look(5);
+        put(1, 0).put(4, code(0200, 1, address)).goFrom(4, true, 1);
+        return machine.look(5) == traps ? at(1) : -1;
     }
 
     long at(int place) {

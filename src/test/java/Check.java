@@ -2,8 +2,14 @@
 final class Check {
     private static int right = 0;
     private static int wrong = 0;
+    private static String sentence = "";
 
     private Check() {
+    }
+
+    /** The document's sentence that the next answers are held to: told with every wrong one. */
+    static void sentence(String text) {
+        sentence = "\"" + text + "\": ";
     }
 
     static void same(String what, long got, long due) {
@@ -12,7 +18,7 @@ final class Check {
             return;
         }
         wrong++;
-        System.out.println(what + " answered " + got + " (0" + Long.toOctalString(got) + "), due is "
+        System.out.println(sentence + what + " answered " + got + " (0" + Long.toOctalString(got) + "), due is "
             + due + " (0" + Long.toOctalString(due) + ")");
     }
 

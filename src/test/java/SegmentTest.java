@@ -33,7 +33,7 @@ public final class SegmentTest {
     }
 
     private static void refusedChangesNothing() {
-        Bench b = user(256, 64, 512, 8);
+        Bench b = Bench.withSegments(256, 64, 512, 8);
         b.machine.segment(0, 300, 1025);
         b.machine.segment(0, 1025, 10);
         b.machine.segment(1, -1, 10);
@@ -44,23 +44,14 @@ public final class SegmentTest {
         Check.same("high word after refusals", loaded(b, 0400007), 6);
     }
 
-    private static Bench user(int lowBase, int lowBound, int highBase, int highBound) {
-        Bench b = new Bench();
-        b.machine.segment(0, lowBase, lowBound);
-        b.machine.segment(1, highBase, highBound);
-        return b;
-    }
-
-    /** What a step in USER loads from an address; -1 if it traps with 1. The step lies in accumulator 4. */
+    /** What a step in USER loads from an address; -1 if it traps with 1. */
     private static long loaded(Bench b, int address) {
-        int traps = b.machine.look(5);
-        b.put(1, 0).put(4, Bench.code(LOAD, 1, address)).goFrom(4, true, 1);
-        if (b.machine.look(5) == traps) {
-            return b.at(1);
+        long answer = b.loadedInUser(address);
+        if (answer == -1) {
+            Check.same("trap at " + address, b.machine.look(6), 1);
+            Check.same("word of the trap at " + address, b.at(040), Bench.word(010001, 4));
         }
-        Check.same("trap at " + address, b.machine.look(6), 1);
-        Check.same("word of the trap at " + address, b.at(040), Bench.word(010001, 4));
-        return -1;
+        return answer;
     }
 
     private static boolean stores(Bench b, int address, int place) {
@@ -69,7 +60,7 @@ public final class SegmentTest {
     }
 
     private static void lowSegment() {
-        Bench b = user(256, 64, 0, 0);
+        Bench b = Bench.withSegments(256, 64, 0, 0);
         b.put(256 + 020, 1).put(256 + 077, 2).put(256 + 0100, 3).put(256 + 017, 4);
         Check.same("the least low word", loaded(b, 020), 1);
         Check.same("the last low word", loaded(b, 077), 2);
@@ -88,7 +79,7 @@ public final class SegmentTest {
     }
 
     private static void highSegment() {
-        Bench b = user(0, 0, 512, 8);
+        Bench b = Bench.withSegments(0, 0, 512, 8);
         b.put(512, 1).put(512 + 7, 2).put(512 + 8, 3);
         Check.same("the first high word", loaded(b, 0400000), 1);
         Check.same("the last high word", loaded(b, 0400007), 2);
@@ -102,7 +93,7 @@ public final class SegmentTest {
     }
 
     private static void accumulatorsAreNotMoved() {
-        Bench b = user(256, 64, 0, 20);
+        Bench b = Bench.withSegments(256, 64, 0, 20);
         for (int a = 5; a <= 017; a++) {
             b.put(a, 0100 + a).put(256 + a, 0200 + a);
             Check.same("accumulator " + a, loaded(b, a), 0100 + a);
@@ -114,7 +105,7 @@ public final class SegmentTest {
     }
 
     private static void placesBeyondTheStore() {
-        Bench b = user(1000, 64, 1000, 64);
+        Bench b = Bench.withSegments(1000, 64, 1000, 64);
         b.put(1023, 5);
         Check.same("the last place by low", loaded(b, 23), 5);
         Check.same("beyond the store by low", loaded(b, 24), -1);
@@ -125,7 +116,7 @@ public final class SegmentTest {
     }
 
     private static void execIsNotMoved() {
-        Bench b = user(256, 64, 512, 8).put(030, 7).put(256 + 030, 8).go(Bench.code(LOAD, 1, 030));
+        Bench b = Bench.withSegments(256, 64, 512, 8).put(030, 7).put(256 + 030, 8).go(Bench.code(LOAD, 1, 030));
         Check.same("EXEC below the low bound", b.at(1), 7);
         Check.same("EXEC above the low bound", b.put(01777, 9).go(Bench.code(LOAD, 1, 01777)).at(1), 9);
         Check.same("no trap in EXEC", b.trap(), 0);
@@ -138,7 +129,7 @@ public final class SegmentTest {
 
     /** Instructions, words for I, stacks, blocks and bytes all lie where the segments say. */
     private static void everyAddressFollowsTheSegments() {
-        Bench b = user(256, 128, 512, 16);
+        Bench b = Bench.withSegments(256, 128, 512, 16);
         b.put(256 + 040, Bench.code(LOAD, 1, 1, 0, 050)).put(256 + 050, 0400003).put(512 + 3, 077);
         Check.same("by I", b.goFrom(040, true, 1).at(1), 077);
         b.put(2, Bench.word(0, 0400004)).put(256 + 041, Bench.code(0261, 2, 0400003)).on(1);
